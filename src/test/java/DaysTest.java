@@ -5,12 +5,15 @@ public final class DaysTest {
         paysInOrder();
         ruin();
         mostFunds();
-        drifting();
+        for (int seed = 2147483647; seed > 0; seed -= 7654321) {
+            drifting(seed);
+        }
         habits();
         lapses();
         undoing();
         undoingAll();
         wrongInputs();
+        lastDays();
         Check.end();
     }
 
@@ -80,14 +83,14 @@ public final class DaysTest {
         Check.due("funds at most still", x.told(4), 999999);
     }
 
-    private static void drifting() {
+    private static void drifting(int from) {
         QuietOffice x = Check.officeOf("o0;l200 150 100 50 2;l1 0 200 3 1;"
                 + "p0 1 30 0 1;p0 2 30 0 10;p0 4 30 0 100;p1 4 30 0 999;p1 8 30 0 7;");
         QuietOffice twin = Check.officeOf("o0;l200 150 100 50 2;l1 0 200 3 1;"
                 + "p0 1 30 0 1;p0 2 30 0 10;p0 4 30 0 100;p1 4 30 0 999;p1 8 30 0 7;");
-        x.seed(2147483647);
+        x.seed(from);
         x.event(1, 8);
-        long seed = 2147483647L;
+        long seed = from;
         for (int i = 0; i < 20; i++) {
             for (int l = 0; l < 2; l++) {
                 int set = i == 0 && l == 1 ? 8 : 0;
@@ -213,13 +216,22 @@ public final class DaysTest {
         Check.due("lapse(4)", x.lapse(4, true), QuietOffice.UNKNOWN);
         Check.due("lapse(-1)", x.lapse(-1, true), QuietOffice.UNKNOWN);
         Check.due("nothing changed", x.told(3) + x.told(8), 0);
-        Check.due("day(99)", x.day(99) >= 0 ? 1 : 0, 1);
-        for (int i = 0; i < 910; i++) {
+    }
+
+    /** Beyond the 512th call nothing is promised, but a day above 90000 cannot come sooner. */
+    private static void lastDays() {
+        QuietOffice x = Check.officeOf("o5;");
+        for (int i = 0; i < 909; i++) {
             x.day(99);
         }
-        // Beyond the 512th call nothing is promised, but a day above 90000 cannot come sooner.
+        x.day(9);
+        Check.due("day 90000", x.told(3), 90000);
+        Check.due("goes on", x.day(1), 5);
         Check.due("day, full", x.day(1), QuietOffice.FULL);
         Check.due("drift, full", x.drift(1), QuietOffice.FULL);
         Check.due("day, outside first", x.day(0), QuietOffice.OUTSIDE);
+        x.undo(1);
+        Check.due("drift goes on", x.drift(99), 5);
+        Check.due("as it is called", x.told(3), 90099);
     }
 }

@@ -100,6 +100,12 @@ public final class OddsTest {
         x.lapse(1, true);
         // 69: 62100, 55200 and 7000, 41400 and 16000.
         Check.due("the second", x.choose(0), 1);
+        // 40500, 36000 and 7000, 27000 and 16000.
+        QuietOffice like = Check.officeOf("o1;l100 0 0 0 0;p0 1 1 45 0;");
+        Check.due("the second of like ones", like.choose(0), 1);
+        // 6999 less for 7000.
+        QuietOffice just = Check.officeOf("o1;l3 0 0 0 0;p0 1 1 999 0;p0 1 1 999 0;p0 1 1 335 0;");
+        Check.due("just better", just.choose(0), 1);
         QuietOffice y = Check.officeOf("o1;l1 0 0 0 0;" + "p0 1 1 500 0;p0 1 1 500 0;p0 1 1 999 0;p0 1 1 999 0;p0 1 1 999 0;p0 1 1 999 0;");
         // 4996 less by each of a thousand: 7000 for one, 16000 for three of these.
         Check.due("many", y.choose(0), 1);
@@ -132,6 +138,12 @@ public final class OddsTest {
         QuietOffice y = Check.officeOf("o1;l200 0 0 0 2;p0 1 30 1 1;");
         Check.due("calm of 0 is one too", y.struck(1, 1), 0);
         Check.due("calm of 0", y.struck(1, 0), 0);
+        QuietOffice last = Check.officeOf("o1;l5 0 0 100 0;p0 8 30 1 1;p0 9 2 1 1;");
+        Check.due("kind 3 calm", last.struck(3, 0), 1000000000);
+        Check.due("kind 3 which", last.struck(3, 1), 0);
+        Check.due("kind 3 how many", last.struck(3, 2), 1);
+        last.lapse(0, true);
+        Check.due("kind 3 calm of the other", last.struck(3, 0), 990025000);
         QuietOffice z = new QuietOffice();
         Check.due("no office", z.struck(0, 0), QuietOffice.NONE);
         Check.due("no office, how many", z.struck(0, 2), 0);

@@ -161,11 +161,18 @@ public final class OfficeTest {
         x.lapse(0, true);
         x.habit(0, 2);
         x.day(40);
+        x.event(1, 1);
+        x.day(1);
+        x.lapse(0, false);
+        x.day(1);
+        x.lapse(0, true);
         x.event(0, 3);
         x.witness(1);
         x.ledger(1);
         x.write(1);
         Check.due("ruined", x.told(7), 4);
+        Check.due("premiums came", x.told(6), 37);
+        Check.due("quiet for a day", x.policy(0, 5), 1);
         Check.feedText(x, "o9;l1 2 3 4 1;p0 1 2 3 4;");
         Check.due("office", x.office(), 1);
         int[] due = {1, 1, 0, 0, 9, 0, 0, -1, 0, 0, 0, 0, 0};
