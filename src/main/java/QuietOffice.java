@@ -23,6 +23,7 @@ public final class QuietOffice {
     private int theSeed = 0;
     private final State[] images = new State[IMAGES];
     private final int[] imageSeeds = new int[IMAGES];
+    private int keptImages = 0;
 
     public QuietOffice() {
     }
@@ -45,9 +46,7 @@ public final class QuietOffice {
         state.begin(law);
         seen.clear();
         past.forget();
-        for (int i = 0; i < IMAGES; i++) {
-            images[i] = null;
-        }
+        keptImages = 0;
         return law.policies;
     }
 
@@ -325,6 +324,7 @@ public final class QuietOffice {
         }
         images[i].copyFrom(state);
         imageSeeds[i] = theSeed;
+        keptImages |= 1 << i;
         past.forget();
         return 1;
     }
@@ -333,7 +333,7 @@ public final class QuietOffice {
         if (isOutside(i, 0, IMAGES - 1)) {
             return UNKNOWN;
         }
-        if (images[i] == null) {
+        if ((keptImages >> i & 1) == 0 || images[i] == null) {
             return NOT;
         }
         state.copyFrom(images[i]);
@@ -833,7 +833,7 @@ public final class QuietOffice {
 
     /** What would be in days to come. */
     private static final class Trial {
-        private static final int LAST_TRIED = 999;
+        private static final int LAST_TRIED = 999, BEYOND_ALL_DAYS = 1000;
         private final State tried = new State();
 
         int daysToRuin(Law law, State state) {
@@ -915,7 +915,7 @@ public final class QuietOffice {
 
         /** The day on which a policy that such a fire stirs would pay first; beyond all days if none would. */
         static int firstPayment(Law law, State state, int l, int kind) {
-            int first = Integer.MAX_VALUE;
+            int first = BEYOND_ALL_DAYS;
             for (int p = 0; p < law.policies; p++) {
                 if (isLit(law, state, p, l, kind)) {
                     first = Math.min(first, law.daysOf[p] - state.quiet[p]);

@@ -1,3 +1,5 @@
+import java.util.function.IntUnaryOperator;
+
 /** What the tests share: an office told by a text, and answers held against those that are due. */
 final class Check {
     static final String TWO_LIVES =
@@ -13,6 +15,24 @@ final class Check {
         if (got != want) {
             wrong++;
             System.out.println(call + " answered " + got + ", due is " + want);
+        }
+    }
+
+    static void so(String what, boolean is) {
+        due(what, is ? 1 : 0, 1);
+    }
+
+    static boolean isRefusal(int answer) {
+        return answer <= QuietOffice.UNKNOWN && answer >= QuietOffice.FULL;
+    }
+
+    /** Refused one below and one above, and far off; not at the two ends, nor one within. */
+    static void bounds(String call, IntUnaryOperator asked, int least, int most, int refusal) {
+        for (int n : new int[] {Integer.MIN_VALUE, least - 1, most + 1, Integer.MAX_VALUE}) {
+            due(call + " of " + n, asked.applyAsInt(n), refusal);
+        }
+        for (int n : new int[] {least, least + 1, most - 1, most}) {
+            so(call + " of " + n + " is answered", !isRefusal(asked.applyAsInt(n)));
         }
     }
 
