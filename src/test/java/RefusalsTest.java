@@ -5,7 +5,8 @@ import java.util.function.ToIntFunction;
 
 /**
  * Terms: "What is refused changes nothing"; section 3: "nothing changes by it". Each call is made on an object of its
- * own, which then shows the same as one on which it was not made; then all of them one behind the other on one.
+ * own, which then shows the same as one on which it was not made; then all of them one behind the other on one
+ * (which has more than the 512 calls that are promised then; the class knows no such bound).
  */
 public final class RefusalsTest {
     private static final int[] FAR = {Integer.MIN_VALUE, Integer.MAX_VALUE};
@@ -26,6 +27,7 @@ public final class RefusalsTest {
     }
 
     public static void main(String[] args) {
+        busyIsBusy();
         RefusalsTest fresh = new RefusalsTest("new", QuietOffice::new);
         fresh.outsideOfAny();
         fresh.unknownLives(-1, 0, 1);
@@ -61,6 +63,18 @@ public final class RefusalsTest {
             each.allInARow();
         }
         Check.end();
+    }
+
+    /** A change of a line of the ledger or of the book shows only where all lines fit. */
+    private static void busyIsBusy() {
+        QuietOffice x = busy();
+        Check.so("rows fit the ledger", x.befell(1, -1) > 0);
+        Check.due("the book is right", x.judge(), QuietOffice.NONE);
+        Check.due("a ruin was", x.told(7), 4);
+        Check.due("days can be undone", x.told(12), 5);
+        QuietOffice y = full();
+        Check.so("rows fit the full ledger", y.befell(0, -1) > 0);
+        Check.due("the full book is right", y.judge(), QuietOffice.NONE);
     }
 
     /** Lived through, with a ruin, days to undo, one image, and some of all that can be told. */
